@@ -30,7 +30,7 @@ public final class CalendarConverter {
     private static final int BY_DIVISORS = 1;
     private static final int BY_CYCLE = 2;
     /** Stands for a day or a year that is not there; no real one has this number. */
-    private static final int NONE = Integer.MIN_VALUE;
+    private static final int NONE = -2147483648;
 
     private final Text text = new Text();
     private final Reader reader = new Reader(text);

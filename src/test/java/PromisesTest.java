@@ -149,7 +149,7 @@ public final class PromisesTest {
         }
         String[] impossible = {"m29;e0", "m61;e0", "m0,30;e0", "m30,0;e0", "m30,61;e0", "m10,10,9;e0", "m29;e0;d1;l1+",
             "m20;e0;i1,60;l1+", "m30;e500001", "m30;e-500001", "m30;e0;d0", "m30;e0;d2", "m30;e0;i0,5", "m30;e0;i2,5",
-            "m30;e0;i1,0", "m30;e0;i1,61", "m30;e0;l0+", "m30;e0;l401+", "m30;e0;l4+0-", "m30;e0;l7+11-13+",
+            "m30;e0;i1,0", "m30;e0;i1,61", "m30;e0;l0+", "m30;e0;l401+", "m30;e0;l4+0-", "m30;e0;l7+11-13+", "m30;e0;l250+7-",
             "m30;e0;l400+399+398+397+", "m30;e0;c0:0", "m30;e0;c31:0", "m30;e0;c5:5", "m30;e0;c30:0,30", "m30;e0;w1,0,1",
             "m30;e0;w11,0,1", "m30;e0;w7,7,1", "m30;e0;w7,0,0", "m30;e0;w7,0,8", "m30;e0;w0,0,0", "m999999;e0"};
         for (String text : impossible) {
@@ -174,6 +174,8 @@ public final class PromisesTest {
         fault("x", 0);
         fault("m", 1);
         fault("m,", 1);
+        fault("m;e0", 1);
+        fault("m30,;e0", 4);
         fault("m30", 3);
         fault("m30,", 4);
         fault("m30,;", 4);
@@ -193,6 +195,11 @@ public final class PromisesTest {
         fault("m30;e0;d1,", 9);
         fault("m30;e0;d1;i1,1", 10);
         fault("m30;e0;d1;d1", 10);
+        fault("m30;e0;i1,1;d1", 12);
+        fault("m30;e0;i1,1;i1,1", 12);
+        fault("m30;e0;i", 8);
+        fault("m30;e0;c", 8);
+        fault("m30;e0;w", 8);
         fault("m30;e0;i1", 9);
         fault("m30;e0;i1;", 9);
         fault("m30;e0;i1,", 10);
@@ -202,6 +209,7 @@ public final class PromisesTest {
         fault("m30;e0;l4;", 9);
         fault("m30;e0;l4+,", 10);
         fault("m30;e0;l4++", 10);
+        fault("m30;e0;l4+5", 11);
         fault("m30;e0;l1+2+3+4-5+", 16);
         fault("m30;e0;l1234567+", 14);
         fault("m30;e0;l4+;d1", 11);
@@ -272,6 +280,12 @@ public final class PromisesTest {
         Due.is("cycle -18", false, () -> x.isLeapYear(2, -18));
         Due.is("cycle 18", true, () -> x.isLeapYear(2, 18));
         Due.is("without a rule", false, () -> x.isLeapYear(3, 0));
+        set(x, 3, "m30;e0;c19:1");
+        Due.is("remainder 1 of the later cycle", true, () -> x.isLeapYear(3, 1));
+        Due.is("remainder 0 of the earlier cycle", false, () -> x.isLeapYear(3, 0));
+        set(x, 3, "m30;e0;l6+");
+        Due.is("divisors after a cycle", false, () -> x.isLeapYear(3, 1));
+        Due.is("divisors after other ones", false, () -> x.isLeapYear(3, 400));
         Due.index("calendar 4", () -> x.isLeapYear(4, 9999));
         Due.index("calendar -1", () -> x.isLeapYear(-1, 0));
         Due.argument("year -2001", () -> x.isLeapYear(0, -2001));
@@ -349,6 +363,10 @@ public final class PromisesTest {
         Due.is("in the intercalary month", -100 + 118 + 2, () -> x.dayOf(1, 1, 5, 3));
         Due.argument("no intercalary month", () -> x.dayOf(1, 2, 5, 3));
         Due.is("day 999999", 999999, () -> x.dayOf(2, 1993, 1, 8));
+        CalendarConverter y = with("m5,5,5,5,5,5,5,5,5,5,5,5,5,5;e0;i1,9;l2+");
+        Due.is("in the fifteenth month", 70 + 5 + 9 + 12 * 5 + 1, () -> y.dayOf(1, 2, 15, 2));
+        Due.argument("no fifteenth month", () -> y.dayOf(1, 1, 15, 2));
+        dated(y, 1, 70 + 5 + 9 + 12 * 5 + 1, 2, 15, 2, 76, 5);
         Due.argument("day 1000000", () -> x.dayOf(2, 1993, 1, 9));
         Due.is("day -999999", -999999, () -> x.dayOf(3, -1992, 5, 5));
         Due.argument("day -1000000", () -> x.dayOf(3, -1992, 5, 4));
@@ -479,6 +497,8 @@ public final class PromisesTest {
         Due.is("5 months are a leap year", 47, () -> x.plus(1, -100, 5));
         Due.is("back over the year 1", -100, () -> x.plus(1, 47, -5));
         Due.is("into the last month", 730484, () -> x.plus(0, 730484, 0));
+        Due.is("in the first month", -730851, () -> x.plus(0, -730851, 0));
+        Due.is("into the first month", -730851, () -> x.plus(0, -730851 + 31, -1));
         Due.element("after the calendar", () -> x.plus(0, 730484, 1));
         Due.element("before the calendar", () -> x.plus(0, -730851, -1));
         Due.is("9999 months", x.dayOf(0, 834, 4, 1), () -> x.plus(0, 0, 9999));
@@ -739,6 +759,8 @@ public final class PromisesTest {
         Due.element("no feast on a day", () -> x.feastOn(1999, christmas - 1));
         Due.element("no feast after them", () -> x.feastOn(1999, christmas + 6));
         Due.element("the feasts of another year", () -> x.feastOn(1998, christmas));
+        Due.is("the feasts of a year", 1, () -> x.feastOn(1999, christmas));
+        Due.is("and of the year before", 1, () -> x.feastOn(1998, christmas - 365));
         Due.index("place of 7", () -> x.placedFeast(7, 2001));
         Due.index("place of -1", () -> x.placedFeast(-1, 2001));
         Due.argument("place in 2001", () -> x.placedFeast(0, 2001));
@@ -801,6 +823,8 @@ public final class PromisesTest {
         Due.element("one has a day", () -> x.meetingYear(0, 7, 1));
         Due.element("never", () -> x.meetingYear(0, 4, -2000));
         Due.index("feast 8", () -> x.meetingYear(8, 8, 1802));
+        Due.index("feast 8 and 0", () -> x.meetingYear(8, 0, 0));
+        Due.index("feast -1", () -> x.meetingYear(-1, 0, 0));
         Due.index("other feast 8", () -> x.meetingYear(0, 8, 1802));
         Due.index("other feast -1", () -> x.meetingYear(0, -1, 0));
         Due.argument("the same feast", () -> x.meetingYear(0, 0, 0));
