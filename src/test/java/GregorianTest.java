@@ -5,20 +5,28 @@ import java.time.temporal.IsoFields;
 public final class GregorianTest {
     /** The day 0 as java.time counts days. */
     private static final int SHIFT = -719162;
+    /** An object answers 512 calls, and a day takes up to 10. */
+    private static final int DAYS_PER_OBJECT = 50;
 
     private GregorianTest() {
     }
 
     public static void main(String[] args) {
         CalendarConverter x = new CalendarConverter();
+        int compared = 0;
         LocalDate first = LocalDate.of(-2000, 1, 1);
         int last = x.firstDay(0, 2000) + x.yearLength(0, 2000) - 1;
         same("the last day", LocalDate.of(2000, 12, 31).toEpochDay(), last + SHIFT);
-        for (int day = x.firstDay(0, -2000); day <= last; day++) {
+        same("the first day", first.toEpochDay(), x.firstDay(0, -2000) + SHIFT);
+        for (int day = (int) first.toEpochDay() - SHIFT; day <= last; day++) {
             LocalDate date = LocalDate.ofEpochDay(day + SHIFT);
             if (date.getDayOfMonth() > 3 && date.getDayOfMonth() < 26) {
                 continue;
             }
+            if (compared % DAYS_PER_OBJECT == 0) {
+                x = new CalendarConverter();
+            }
+            compared++;
             same("year of " + day, date.getYear(), x.date(0, day, 0));
             same("month of " + day, date.getMonthValue(), x.date(0, day, 1));
             same("day of " + day, date.getDayOfMonth(), x.date(0, day, 2));

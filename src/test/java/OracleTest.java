@@ -52,7 +52,7 @@ public final class OracleTest {
     private void run() {
         int texts = random.nextInt(4);
         for (int i = 0; i < texts && same; i++) {
-            setText(Math.min(5, x.calendarCount()));
+            setText(Math.min(5, o.calendarCount()));
         }
         while (same && count < MOST_CALLS) {
             step();
@@ -77,7 +77,7 @@ public final class OracleTest {
     }
 
     private int cal() {
-        return chance(4) ? from(-2, 7) : random.nextInt(x.calendarCount());
+        return chance(4) ? from(-2, 7) : random.nextInt(o.calendarCount());
     }
 
     private int year() {
@@ -101,10 +101,10 @@ public final class OracleTest {
         }
         if (kind < 6) {
             int edge = chance(50) ? -2000 : 2000;
-            return x.firstDay(random.nextInt(x.calendarCount()), edge) + (edge > 0 ? from(0, 900) : from(-30, 60));
+            return o.firstDay(random.nextInt(o.calendarCount()), edge) + (edge > 0 ? from(0, 900) : from(-30, 60));
         }
         if (kind < 10) {
-            return x.firstDay(random.nextInt(x.calendarCount()), from(-2000, 2000)) + from(-12, 12);
+            return o.firstDay(random.nextInt(o.calendarCount()), from(-2000, 2000)) + from(-12, 12);
         }
         return kind < 12 ? from(-1000, 1000) : from(-999999, 999999);
     }
@@ -179,7 +179,7 @@ public final class OracleTest {
     private void step() {
         int kind = random.nextInt(100);
         if (kind < 1) {
-            setText(chance(10) ? from(-1, 7) : random.nextInt(Math.min(6, x.calendarCount() + 1)));
+            setText(chance(10) ? from(-1, 7) : random.nextInt(Math.min(6, o.calendarCount() + 1)));
         } else if (kind < 3) {
             int sign = chance(50) ? SIGNS.charAt(random.nextInt(SIGNS.length())) : from(30, 130);
             both("append " + sign, () -> x.appendCharacter(sign), () -> o.appendCharacter(sign));
@@ -208,7 +208,7 @@ public final class OracleTest {
             case 5: both("calendarCount", () -> x.calendarCount(), () -> o.calendarCount()); break;
             case 6: both("faultPosition", () -> x.faultPosition(), () -> o.faultPosition()); break;
             case 7:
-                int number = chance(50) ? from(-1, 7) : x.calendarCount();
+                int number = chance(50) ? from(-1, 7) : o.calendarCount();
                 both("setCalendar " + number, () -> x.setCalendar(number), () -> o.setCalendar(number));
                 break;
             default:
@@ -221,7 +221,7 @@ public final class OracleTest {
     private void addFeast() {
         int rule = chance(3) ? from(-1, 5) : from(0, 4);
         int rank = chance(3) ? from(-1, 10) : from(0, 9);
-        int limit = rule < 2 ? x.calendarCount() : x.feastCount();
+        int limit = rule < 2 ? o.calendarCount() : o.feastCount();
         int which = chance(3) || limit == 0 ? from(-1, 8) : random.nextInt(limit);
         int a = rule < 2 ? from(1, 15) : rule == 2 ? (chance(50) ? from(-3, 3) : from(-400, 400)) : cal();
         int b = rule == 0 || rule == 4 ? from(1, chance(70) ? 31 : 60) : rule == 1 ? (chance(25) ? -1 : from(1, 5))
@@ -244,8 +244,8 @@ public final class OracleTest {
     }
 
     private void feasts() {
-        int f = chance(4) || x.feastCount() == 0 ? from(-1, 8) : random.nextInt(x.feastCount());
-        int g = chance(10) || x.feastCount() == 0 ? from(-1, 8) : random.nextInt(x.feastCount());
+        int f = chance(4) || o.feastCount() == 0 ? from(-1, 8) : random.nextInt(o.feastCount());
+        int g = chance(10) || o.feastCount() == 0 ? from(-1, 8) : random.nextInt(o.feastCount());
         int y = year();
         switch (random.nextInt(4)) {
             case 0: both("feast " + f + " " + y, () -> x.feast(f, y), () -> o.feast(f, y)); break;
@@ -356,7 +356,7 @@ public final class OracleTest {
                 int b = number();
                 int e = number();
                 both("readings " + a + " " + b + " " + e, () -> x.readings(a, b, e), () -> o.readings(a, b, e));
-                for (int i = chance(70) ? 99 : 0; i <= x.calendarCount() * 3; i++) {
+                for (int i = chance(70) ? 99 : 0; i <= o.calendarCount() * 3; i++) {
                     int at = i;
                     int which = from(0, 2);
                     both("reading " + at + " " + which, () -> x.reading(at, which), () -> o.reading(at, which));
