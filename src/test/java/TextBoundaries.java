@@ -14,11 +14,9 @@ final class TextBoundaries extends Boundary {
         is(12, () -> x.setCalendar(1));
         is(41, () -> x.yearLength(1, 1));
         is(1, () -> x.appendCharacter('m'));
-        is(0, () -> {
-            CalendarConverter y = new CalendarConverter();
-            Due.is(test + " empty", ARGUMENT, () -> y.setCalendar(1));
-            return y.faultPosition();
-        });
+        CalendarConverter empty = new CalendarConverter();
+        is(ARGUMENT, () -> empty.setCalendar(1));
+        is(0, empty::faultPosition);
     }
 
     @Says(in = "Description", value = "A calendar is read from a text of this form:")
