@@ -70,6 +70,12 @@ final class SpanPromises extends Boundary {
         are(three(), (y, day) -> y.plus(1, day, 0), -60030, -60030, 59999, 59999);
         refusedFor(ELEMENT, THREE, (x, day) -> x.plus(1, day, 0), -60031, 60000, -999999, 999999);
         refused(ELEMENT, THREE, x -> x.plus(1, -60031, 1), x -> x.plus(1, 60000, -1));
+        refusedFor(ELEMENT, THREE, (x, months) -> x.plus(0, 730485, months), 0, -1, 1, -9999, 9999);
+        refusedFor(ELEMENT, THREE, (x, months) -> x.plus(0, -730852, months), 0, -1, 1, -9999, 9999);
+        refusedFor(ELEMENT, THREE, (x, months) -> x.plus(2, 999999, months), 0, -1, 1, -9999, 9999);
+        are(with("m30,30;e0"), (y, day) -> y.plus(1, day, 0), -120060, -120060, 119999, 119999);
+        refusedFor(ELEMENT, settled("m30,30;e0"), (x, months) -> x.plus(1, 120000, months), 0, -1, 1, -9999, 9999);
+        refusedFor(ELEMENT, settled("m30,30;e0"), (x, months) -> x.plus(1, -120061, months), 0, -1, 1, -9999, 9999);
     }
 
     @Says(in = "19", value = "or the other day would be, or would not be from -999999 to 999999")
@@ -130,6 +136,8 @@ final class SpanPromises extends Boundary {
         are(three(), (y, day) -> y.plusYears(1, day, 0), -60030, -60030, 59999, 59999);
         refusedFor(ELEMENT, THREE, (x, day) -> x.plusYears(1, day, 0), -60031, 60000, -999999, 999999);
         refused(ELEMENT, THREE, x -> x.plusYears(1, -60031, 1), x -> x.plusYears(1, 60000, -1));
+        refusedFor(ELEMENT, THREE, (x, years) -> x.plusYears(0, 730485, years), 0, -1, 1, -4000, 4000);
+        refusedFor(ELEMENT, THREE, (x, years) -> x.plusYears(0, -730852, years), 0, -1, 1, -4000, 4000);
     }
 
     @Says(in = "20", value = "or the other day would be, or would not be from -999999 to 999999")
