@@ -1,12 +1,17 @@
+import java.io.PrintWriter;
+import java.io.StringWriter;
 import java.lang.reflect.Constructor;
 import java.lang.reflect.Method;
 import java.lang.reflect.Modifier;
 import java.nio.file.Files;
 import java.nio.file.Path;
 import java.util.Arrays;
+import java.util.HashMap;
+import java.util.Map;
 import java.util.TreeSet;
 import java.util.regex.Matcher;
 import java.util.regex.Pattern;
+import java.util.spi.ToolProvider;
 
 /** The rules of the language that can be seen from the outside of the program and from its words. */
 public final class LanguageTest {
@@ -29,6 +34,7 @@ public final class LanguageTest {
     private static final int MOST_CLASSES = 12;
     private static final int MOST_FIELDS = 20;
     private static final int MOST_PARAMETERS = 7;
+    private static final int DEEPEST_CALLS = 8;
 
     private LanguageTest() {
     }
@@ -40,6 +46,7 @@ public final class LanguageTest {
         face();
         signatures(source);
         classes();
+        depth();
         Due.end("LanguageTest");
     }
 
@@ -138,6 +145,54 @@ public final class LanguageTest {
         });
         for (Method m : one.getDeclaredMethods()) {
             Due.same("parameters of " + m, "true", String.valueOf(m.getParameterCount() <= MOST_PARAMETERS));
+        }
+    }
+
+    /** The calls that stand open at once, the library's counted too; no method calls itself, not even through others. */
+    private static void depth() throws Exception {
+        Map<String, TreeSet<String>> calls = new HashMap<>();
+        addCalls(CalendarConverter.class, calls);
+        for (Class<?> one : CalendarConverter.class.getDeclaredClasses()) {
+            addCalls(one, calls);
+        }
+        int links = 0;
+        for (Map.Entry<String, TreeSet<String>> one : calls.entrySet()) {
+            links += one.getValue().size();
+            Due.same("depth of the calls of " + one.getKey(), "true",
+                String.valueOf(depthOf(one.getKey(), calls, 0) <= DEEPEST_CALLS));
+        }
+        Due.same("calls seen", "true", String.valueOf(calls.size() > 100 && links > 200));
+    }
+
+    private static int depthOf(String method, Map<String, TreeSet<String>> calls, int open) {
+        int deepest = 0;
+        if (open <= DEEPEST_CALLS && calls.containsKey(method)) {
+            for (String called : calls.get(method)) {
+                deepest = Math.max(deepest, depthOf(called, calls, open + 1));
+            }
+        }
+        return deepest + 1;
+    }
+
+    private static void addCalls(Class<?> one, Map<String, TreeSet<String>> calls) throws Exception {
+        StringWriter code = new StringWriter();
+        Path place = Path.of(one.getProtectionDomain().getCodeSource().getLocation().toURI());
+        ToolProvider.findFirst("javap").orElseThrow().run(new PrintWriter(code), new PrintWriter(code), "-p", "-c",
+            "-cp", place.toString(), one.getName());
+        Pattern begins = Pattern.compile("  \\S.*?([\\w$]+)\\(.*\\).*;");
+        Pattern call = Pattern.compile(".*// (?:Interface)?Method (?:([\\w/$]+)\\.)?\"?([\\w<>]+)\"?:.*");
+        String method = "";
+        for (String line : code.toString().split("\\R")) {
+            Matcher begun = begins.matcher(line);
+            Matcher called = call.matcher(line);
+            if (begun.matches()) {
+                String name = begun.group(1).equals(one.getName()) ? "<init>" : begun.group(1);
+                method = one.getName() + "." + name;
+                calls.computeIfAbsent(method, key -> new TreeSet<>());
+            } else if (called.matches() && !method.isEmpty()) {
+                String owner = called.group(1) == null ? one.getName() : called.group(1);
+                calls.get(method).add(owner + "." + called.group(2));
+            }
         }
     }
 }
